@@ -89,6 +89,9 @@ final class EntriesTest {
         Check.caption(x, 0, 0, 0, 30, 0, 0);
         Check.caption(x, 0, 0, 1, 29, 65535, 0);
         Check.caption(x, 0, 0, 2, 9, 32768, 0);
+        Check.entries(x, "0:4/1/0=b;0:3/1/0=b;0:2/1/0=b;0:1/1/0=b;0.4+1=b;0.3+2=", 6);
+        Check.caption(x, 0, 4, 0, 1, 2, 0);
+        Check.caption(x, 0, 3, 0, 2, 0, 0);
     }
 
     /** Promise 6. */

@@ -141,6 +141,11 @@ final class TellingTest {
         x.turn(false);
         x.read();
         Check.due("what was learned is the same to it", x.unmet(14), 28);
+        ExhibitTexts y = new ExhibitTexts();
+        y.addText(0, 20, 1, 15, 1);
+        y.addText(0, 20, 1, 1, 8);
+        Check.due("what only another age is shown", y.unmet(15), 1);
+        Check.due("what only another age is shown", y.unmet(50), 8);
     }
 
     /** Promise 23. */

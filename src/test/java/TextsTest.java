@@ -126,6 +126,8 @@ final class TextsTest {
         Check.due("text -1", x.setFacts(2, -1, 1), -1);
         Check.due("exhibit 8", x.setFacts(8, 0, 1), -1);
         Check.due("exhibit -1", x.setFacts(-1, 0, 1), -1);
+        x.addCaption(2, 0, 1, 1);
+        Check.due("two captions tell more", x.setFacts(2, 0, 4), -4);
         x.removeText(2, 0);
         x.addText(2, 10, 1, 0, 3);
         Check.due("captions of a removed text bind no later one", x.setFacts(2, 0, 8), 3);

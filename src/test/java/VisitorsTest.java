@@ -9,6 +9,7 @@ final class VisitorsTest {
         touchOpensTheText();
         read();
         roundedTimes();
+        newTextsWereNeverRead();
         turn();
         setTurning();
     }
@@ -155,6 +156,30 @@ final class VisitorsTest {
         x.addText(1, 201, 10, 0, 2);
         x.read();
         Check.due("12060 / 41, rounded up", x.visitor(2), 0);
+        x.turn(false);
+        x.enter(99, 59, 10);
+        x.read();
+        Check.due("60 / 59, rounded up", x.visitor(2), 8);
+        x.enter(99, 60, 10);
+        x.read();
+        Check.due("60 / 60", x.visitor(2), 9);
+    }
+
+    /** What is new was never read, also where something stood that was. */
+    private static void newTextsWereNeverRead() {
+        ExhibitTexts x = new ExhibitTexts();
+        x.addText(0, 10, 1, 0, 3);
+        x.addCaption(0, 0, 1, 1);
+        x.enter(99, 400, 100);
+        x.touch(0);
+        Check.text(x, 0, 0, 10, 1, 0, 3, 9, 1, 1);
+        Check.caption(x, 0, 0, 0, 1, 1, 1);
+        x.removeText(0, 0);
+        x.addText(0, 11, 1, 0, 3);
+        x.addCaption(0, 0, 2, 1);
+        Check.text(x, 0, 0, 11, 1, 0, 3, 9, 1, 0);
+        Check.caption(x, 0, 0, 0, 2, 1, 0);
+        Check.counts(x, 1, 1, 0, 5, 1, 1, 1, 1, 2);
     }
 
     /** Promise 11. */
