@@ -15,74 +15,71 @@ final class EntriesTest {
 
     /** Promise 6. */
     private static void faultsOfTexts() {
-        ExhibitTexts x = new ExhibitTexts();
-        Check.due("an empty pad", x.readEntries(), -100);
+        Check.due("an empty pad", new Carousel().readEntries(), -100);
         String whole = "7:300/50/299=acp";
         for (int length = 0; length <= 12; length++) {
-            Check.entries(x, whole.substring(0, length), -100 - length);
+            Check.fault(whole.substring(0, length), length);
         }
-        Check.entries(x, "8:1/1/0=a", -100);
-        Check.entries(x, "a", -100);
-        Check.entries(x, ";", -100);
-        Check.entries(x, " 0:1/1/0=a", -100);
-        Check.entries(x, "00:1/1/0=a", -101);
-        Check.entries(x, "0;1/1/0=a", -101);
-        Check.entries(x, "0:/1/0=a", -102);
-        Check.entries(x, "0:-1/1/0=a", -102);
-        Check.entries(x, "0:01/1/0=a", -103);
-        Check.entries(x, "0:00/1/0=a", -103);
-        Check.entries(x, "0:1000/1/0=a", -105);
-        Check.entries(x, "0:1=1/0=a", -103);
-        Check.entries(x, "0:1//0=a", -104);
-        Check.entries(x, "0:1/01/0=a", -105);
-        Check.entries(x, "0:1/9999/0=a", -107);
-        Check.entries(x, "0:1/1/=a", -106);
-        Check.entries(x, "0:1/1/00=a", -107);
-        Check.entries(x, "0:1/1/1234=a", -109);
-        Check.entries(x, "0:1/1/0:a", -107);
-        Check.entries(x, "0:1/1/0=", -108);
-        Check.entries(x, "0:1/1/0=;", -108);
-        Check.entries(x, "0:1/1/0=q", -108);
-        Check.entries(x, "0:1/1/0=A", -108);
-        Check.entries(x, "0:1/1/0=`", -108);
-        Check.entries(x, "0:1/1/0=aa", -109);
-        Check.entries(x, "0:1/1/0=ba", -109);
-        Check.entries(x, "0:1/1/0=apo", -110);
-        Check.entries(x, "0:1/1/0=pq", -109);
-        Check.entries(x, "0:1/1/0=a ", -109);
-        Check.entries(x, "0:1/1/0=a" + (char) 0, -109);
-        Check.entries(x, "0" + (char) 65535, -101);
-        Check.entries(x, "0:1/1/0=a" + (char) 353, -109);
-        Check.entries(x, "" + (char) 1632, -100);
-        Check.counts(x, 0, 0, 0, 5, 0, 0, 0, 0, 0, 0);
+        Check.fault("8:1/1/0=a", 0);
+        Check.fault("a", 0);
+        Check.fault(";", 0);
+        Check.fault(" 0:1/1/0=a", 0);
+        Check.fault("00:1/1/0=a", 1);
+        Check.fault("0;1/1/0=a", 1);
+        Check.fault("0:/1/0=a", 2);
+        Check.fault("0:-1/1/0=a", 2);
+        Check.fault("0:01/1/0=a", 3);
+        Check.fault("0:00/1/0=a", 3);
+        Check.fault("0:1000/1/0=a", 5);
+        Check.fault("0:1=1/0=a", 3);
+        Check.fault("0:1//0=a", 4);
+        Check.fault("0:1/01/0=a", 5);
+        Check.fault("0:1/9999/0=a", 7);
+        Check.fault("0:1/1/=a", 6);
+        Check.fault("0:1/1/00=a", 7);
+        Check.fault("0:1/1/1234=a", 9);
+        Check.fault("0:1/1/0:a", 7);
+        Check.fault("0:1/1/0=", 8);
+        Check.fault("0:1/1/0=;", 8);
+        Check.fault("0:1/1/0=q", 8);
+        Check.fault("0:1/1/0=A", 8);
+        Check.fault("0:1/1/0=`", 8);
+        Check.fault("0:1/1/0=aa", 9);
+        Check.fault("0:1/1/0=ba", 9);
+        Check.fault("0:1/1/0=apo", 10);
+        Check.fault("0:1/1/0=pq", 9);
+        Check.fault("0:1/1/0=a ", 9);
+        Check.fault("0:1/1/0=a" + (char) 0, 9);
+        Check.fault("0" + (char) 65535, 1);
+        Check.fault("0:1/1/0=a" + (char) 353, 9);
+        Check.fault("" + (char) 1632, 0);
     }
 
     /** Promise 6. */
     private static void faultsOfCaptions() {
-        ExhibitTexts x = new ExhibitTexts();
-        x.addText(0, 10, 1, 0, 65535);
         String whole = "0.0+30=";
         for (int length = 0; length < whole.length(); length++) {
-            Check.entries(x, whole.substring(0, length), -100 - length);
+            Check.fault(whole.substring(0, length), length);
         }
-        Check.entries(x, "0.5+1=", -102);
-        Check.entries(x, "0.+1=", -102);
-        Check.entries(x, "0.00+1=", -103);
-        Check.entries(x, "0.10+1=", -103);
-        Check.entries(x, "0.0:1=", -103);
-        Check.entries(x, "0.0+0=", -104);
-        Check.entries(x, "0.0+01=", -104);
-        Check.entries(x, "0.0+=", -104);
-        Check.entries(x, "0.0+31=", -105);
-        Check.entries(x, "0.0+40=", -105);
-        Check.entries(x, "0.0+100=", -106);
-        Check.entries(x, "0.0+299=", -106);
-        Check.entries(x, "0.0+1/", -105);
-        Check.entries(x, "0.0+1=q", -106);
-        Check.entries(x, "0.0+1=cb", -107);
-        Check.entries(x, "0.0+1=bb", -107);
-        Check.entries(x, "8.0+1=", -100);
-        Check.counts(x, 1, 0);
+        Check.fault("0.5+1=", 2);
+        Check.fault("0.+1=", 2);
+        Check.fault("0.00+1=", 3);
+        Check.fault("0.10+1=", 3);
+        Check.fault("0.0:1=", 3);
+        Check.fault("0.0+0=", 4);
+        Check.fault("0.0+01=", 4);
+        Check.fault("0.0+=", 4);
+        Check.fault("0.0+31=", 5);
+        Check.fault("0.0+40=", 5);
+        Check.fault("0.0+100=", 6);
+        Check.fault("0.0+299=", 6);
+        Check.fault("0.0+1/", 5);
+        Check.fault("0.0+1=q", 6);
+        Check.fault("0.0+1=cb", 7);
+        Check.fault("0.0+1=bb", 7);
+        Check.fault("8.0+1=", 0);
+        Carousel x = new Carousel();
+        x.addText(0, 10, 1, 0, 65535);
         Check.entries(x, "0.0+30=", 1);
         Check.entries(x, "0.0+29=abcdefghijklmnop", 1);
         Check.entries(x, "0.0+9=p", 1);
@@ -96,7 +93,7 @@ final class EntriesTest {
 
     /** Promise 6. */
     private static void faultsBetweenEntries() {
-        ExhibitTexts x = new ExhibitTexts();
+        Carousel x = new Carousel();
         Check.entries(x, "0:1/1/0=a;", -110);
         Check.entries(x, "0:1/1/0=a;;", -110);
         Check.entries(x, "0:1/1/0=a;8", -110);
@@ -110,7 +107,7 @@ final class EntriesTest {
 
     /** Promise 6. */
     private static void entriesAreDone() {
-        ExhibitTexts x = new ExhibitTexts();
+        Carousel x = new Carousel();
         Check.entries(x, "7:300/50/299=acp", 1);
         Check.text(x, 7, 0, 300, 50, 299, 32773, 36, 0, 0);
         Check.entries(x, "1:10/2/0=ab;1.0+12=b;1:9/3/9=p;1.1+7=", 4);
@@ -125,7 +122,7 @@ final class EntriesTest {
         Check.caption(x, 1, 1, 1, 7, 0, 0);
         Check.due("the fifth has room, the sixth has none", x.readEntries(), -4);
         Check.counts(x, 5, 4, 0, 5, 0, 0, 0, 5, 4, 3);
-        ExhibitTexts y = new ExhibitTexts();
+        Carousel y = new Carousel();
         y.addText(0, 9, 1, 0, 1);
         y.addText(1, 9, 1, 0, 1);
         y.addText(2, 9, 1, 0, 1);
@@ -136,7 +133,7 @@ final class EntriesTest {
 
     /** Promise 6. */
     private static void entriesAreOneAct() {
-        ExhibitTexts x = new ExhibitTexts();
+        Carousel x = new Carousel();
         Check.entries(x, "0:1/1/0=a;0:1/1/0=b;0:1/1/0=c", 3);
         Check.due("one state", x.count(9), 1);
         Check.due("undo of all", x.undo(), 0);
@@ -147,7 +144,7 @@ final class EntriesTest {
 
     /** Promises 6 and 7. */
     private static void refusedEntries() {
-        ExhibitTexts x = new ExhibitTexts();
+        Carousel x = new Carousel();
         Check.due("what -1", x.refusal(-1), -2);
         Check.due("what 2", x.refusal(2), -2);
         Check.due("none yet", x.refusal(1), -5);
@@ -181,7 +178,7 @@ final class EntriesTest {
     }
 
     /** A pad with "9" at its end has a fault, and so leaves the refusal that was. */
-    private static void refused(ExhibitTexts x, String signs, int entry, int error) {
+    private static void refused(Carousel x, String signs, int entry, int error) {
         int states = x.count(9);
         int texts = x.count(0);
         boolean faulty = signs.endsWith("9");
@@ -194,7 +191,7 @@ final class EntriesTest {
 
     /** Promises 13 and 14. */
     private static void pad() {
-        ExhibitTexts x = new ExhibitTexts();
+        Carousel x = new Carousel();
         Check.due("clearPad of an empty pad", x.clearPad(), 0);
         for (int length = 1; length <= 60; length++) {
             Check.due("type", x.type((char) (length * 1000)), length);

@@ -1,3 +1,5 @@
+import java.util.List;
+
 /** Promises 15 to 17: undo and the snapshot. */
 final class HistoryTest {
     private HistoryTest() {
@@ -13,7 +15,7 @@ final class HistoryTest {
 
     /** Promise 15. */
     private static void undo() {
-        ExhibitTexts x = new ExhibitTexts();
+        Carousel x = new Carousel();
         Check.due("an empty history", x.undo(), -5);
         for (int text = 0; text < 5; text++) {
             x.addText(0, 10 + text, 1, 0, 1);
@@ -48,26 +50,29 @@ final class HistoryTest {
     }
 
     private static void everyActIsUndone() {
-        ExhibitTexts x = new ExhibitTexts();
-        x.addText(0, 60, 6, 3, 7);
-        x.keep();
-        x.addText(1, 50, 5, 2, 15);
-        x.addCaption(0, 0, 3, 1);
-        x.enter(30, 100, 500);
         for (int act = 0; act < 11; act++) {
-            String before = all(x);
+            Carousel x = new Carousel();
+            x.addText(0, 60, 6, 3, 7);
+            x.keep();
+            x.addText(1, 50, 5, 2, 15);
+            x.addCaption(0, 0, 3, 1);
+            x.enter(30, 100, 500);
+            for (int earlier = 0; earlier < act; earlier++) {
+                act(x, earlier);
+            }
+            List<String> before = Look.atState(x);
             int answer = act(x, act);
             Check.holds("act " + act + " is done", answer >= 0);
-            String after = all(x);
+            List<String> after = Look.atState(x);
             Check.holds("act " + act + " changes something", !after.equals(before));
             Check.due("undo of act " + act, x.undo(), 3);
-            Check.holds("act " + act + " is undone", all(x).equals(before));
+            Check.same("act " + act + " is undone", Look.atState(x), before);
             Check.due("act " + act + " again", act(x, act), answer);
-            Check.holds("act " + act + " does the same", all(x).equals(after));
+            Check.same("act " + act + " does the same", Look.atState(x), after);
         }
     }
 
-    private static int act(ExhibitTexts x, int act) {
+    private static int act(Carousel x, int act) {
         switch (act) {
             case 0: return x.addText(2, 40, 4, 1, 31);
             case 1: return x.addCaption(2, 0, 9, 2);
@@ -86,28 +91,9 @@ final class HistoryTest {
         }
     }
 
-    /** Everything that is told of a state; a pad and a history are none of it. */
-    private static String all(ExhibitTexts x) {
-        StringBuilder told = new StringBuilder();
-        for (int what = 0; what < 9; what++) {
-            told.append(x.count(what)).append(' ').append(x.visitor(what)).append(' ');
-        }
-        for (int exhibit = 0; exhibit < 8; exhibit++) {
-            for (int text = 0; text < 5; text++) {
-                for (int what = 0; what < 7; what++) {
-                    told.append(x.text(exhibit, text, what)).append(' ');
-                }
-                for (int number = 0; number < 9; number++) {
-                    told.append(x.caption(exhibit, text, number / 3, number % 3)).append(' ');
-                }
-            }
-        }
-        return told.toString();
-    }
-
     /** Promises 16 and 17. */
     private static void keepAndRestore() {
-        ExhibitTexts x = new ExhibitTexts();
+        Carousel x = new Carousel();
         Check.due("no snapshot", x.restore(), -5);
         Check.due("keep", x.keep(), 0);
         Check.due("keep is no act", x.count(9), 0);
@@ -120,28 +106,28 @@ final class HistoryTest {
         x.touch(0);
         x.setTurning(9);
         x.turn(true);
-        String kept = all(x);
+        List<String> kept = Look.atState(x);
         Check.due("keep in place of the one that was", x.keep(), 2);
         x.removeText(0, 0);
         x.setTurning(10);
         x.enter(21, 101, 301);
         x.turn(true);
-        String before = all(x);
+        List<String> before = Look.atState(x);
         Check.due("restore", x.restore(), 2);
-        Check.holds("everything is restored", all(x).equals(kept));
+        Check.same("everything is restored", Look.atState(x), kept);
         x.addText(0, 11, 1, 0, 3);
         Check.due("it stays", x.restore(), 2);
-        Check.holds("what came later did not change the snapshot", all(x).equals(kept));
+        Check.same("what came later did not change the snapshot", Look.atState(x), kept);
         x.undo();
         x.undo();
         Check.due("undo of restore", x.undo(), 1);
-        Check.holds("restore is undone", all(x).equals(before));
+        Check.same("restore is undone", Look.atState(x), before);
         Check.due("undo leaves the snapshot", x.restore(), 2);
-        Check.holds("everything is restored", all(x).equals(kept));
+        Check.same("everything is restored", Look.atState(x), kept);
     }
 
     private static void whatIsNoPartOfAState() {
-        ExhibitTexts x = new ExhibitTexts();
+        Carousel x = new Carousel();
         x.keep();
         x.turn(true);
         Check.type(x, "0:0/1/0=a");
@@ -161,14 +147,14 @@ final class HistoryTest {
 
     /** What tells, and what fails, is no act and changes nothing. */
     private static void whatIsNoAct() {
-        ExhibitTexts x = new ExhibitTexts();
+        Carousel x = new Carousel();
         x.addText(0, 60, 6, 3, 7);
         x.addText(0, 50, 1, 2, 8);
         x.addCaption(0, 0, 3, 1);
         x.addCaption(0, 0, 3, 1);
         x.addCaption(0, 0, 3, 1);
         x.enter(10, 30, 2);
-        String before = all(x);
+        List<String> before = Look.atState(x);
         x.round(10, 100, 5000);
         x.unmet(10);
         x.shown(0, 10);
@@ -190,7 +176,7 @@ final class HistoryTest {
         x.addText(0, 3, 4, 0, 1);
         x.removeText(1, 0);
         x.enter(10, 29, 1);
-        Check.holds("nothing has changed", all(x).equals(before));
+        Check.same("nothing has changed", Look.atState(x), before);
         Check.due("4 states", x.count(9), 4);
         x.undo();
         Check.due("the latest act was enter", x.visitor(0), -5);

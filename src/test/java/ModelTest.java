@@ -1,9 +1,10 @@
 import java.util.Random;
 
-/** Runs of 512 calls, always the same ones, on the class and on the model side by side. */
+/** Runs of up to 512 calls, always the same ones, on the class and on the model side by side. */
 final class ModelTest {
-    private static final int RUNS = 4000;
-    private static final int CALLS = 512;
+    private static final int RUNS = 12000;
+    /** As many calls as the largest step and a look at the counts make. */
+    private static final int STEP = 50;
     private static final int[] WILD = {
         Integer.MIN_VALUE, -101, -6, -5, -2, -1, 0, 1, 2, 3, 4, 5, 6, 7, 8, 9, 10, 11, 29, 30, 31, 50, 51, 60, 61,
         99, 100, 300, 301, 400, 401, 9999, 10000, 65535, 65536, Integer.MAX_VALUE
@@ -11,7 +12,7 @@ final class ModelTest {
     private static final String SIGNS = "0123456789:./=+;abcop q";
 
     private final Random random;
-    private final ExhibitTexts x = new ExhibitTexts();
+    private final Carousel x = new Carousel();
     private final Model model = new Model();
     /** How many of the exhibits are used mostly: few let them fill. */
     private final int exhibits;
@@ -27,19 +28,29 @@ final class ModelTest {
 
     static void run() {
         for (int run = 0; run < RUNS; run++) {
+            Check.begin("ModelTest, run " + run);
             ModelTest test = new ModelTest(run);
-            for (int call = 0; call < CALLS; call++) {
-                int wrong = Check.wrong();
-                try {
-                    test.step("run " + run + ", call " + call + ": ");
-                } catch (RuntimeException thrown) {
-                    Check.holds("run " + run + ", call " + call + " threw " + thrown, false);
-                }
-                if (Check.wrong() != wrong) {
-                    break;
-                }
+            try {
+                test.wholeRun();
+            } catch (RuntimeException thrown) {
+                Check.holds("no call threw as one did now: " + thrown, false);
             }
         }
+    }
+
+    /** Steps up to a first wrong answer, and a look with the calls that are left; about half of the runs have few. */
+    private void wholeRun() {
+        int wrong = Check.wrong();
+        int kept = random.nextInt(2) == 0 ? 0 : random.nextInt(400);
+        int step = 0;
+        while (x.callsLeft() > kept + STEP) {
+            step("step " + step + ": ");
+            if (Check.wrong() != wrong) {
+                return;
+            }
+            step++;
+        }
+        lookAtAll("after step " + step + ": ");
     }
 
     private int among(int least, int greatest) {
@@ -219,19 +230,14 @@ final class ModelTest {
         int text = among(0, 4);
         switch (kind) {
             case 0:
-                everything(at);
+                lookAtCounts(at);
                 break;
             case 1:
-                int textWhat = among(0, 7);
-                Check.due(at + "text(" + exhibit + ", " + text + ", " + textWhat + ")",
-                    x.text(exhibit, text, textWhat), model.text(exhibit, text, textWhat));
+                lookAtText(at, exhibit, text);
                 break;
             case 2:
                 int caption = among(0, 2);
-                int captionWhat = among(0, 3);
-                Check.due(at + "caption(" + exhibit + ", " + text + ", " + caption + ", " + captionWhat + ")",
-                    x.caption(exhibit, text, caption, captionWhat),
-                    model.caption(exhibit, text, caption, captionWhat));
+                lookAtCaption(at, exhibit, text, caption, among(0, 3));
                 break;
             case 3:
                 int visitorWhat = among(0, 6);
@@ -269,23 +275,42 @@ final class ModelTest {
         }
     }
 
-    private void everything(String at) {
+    private void lookAtCounts(String at) {
         for (int what = 0; what < 12; what++) {
             Check.due(at + "count(" + what + ")", x.count(what), model.count(what));
+        }
+        for (int what = 0; what < 7; what++) {
             Check.due(at + "visitor(" + what + ")", x.visitor(what), model.visitor(what));
+        }
+        for (int what = 0; what < 3; what++) {
             Check.due(at + "refusal(" + what + ")", x.refusal(what), model.refusal(what));
         }
-        for (int exhibit = 0; exhibit < 8; exhibit++) {
-            for (int text = 0; text < 6; text++) {
-                for (int what = 0; what < 8; what++) {
-                    Check.due(at + "text(" + exhibit + ", " + text + ", " + what + ")",
-                        x.text(exhibit, text, what), model.text(exhibit, text, what));
-                }
-                for (int number = 0; number < 16; number++) {
-                    Check.due(at + "caption(" + exhibit + ", " + text + ", " + number / 4 + ", " + number % 4 + ")",
-                        x.caption(exhibit, text, number / 4, number % 4),
-                        model.caption(exhibit, text, number / 4, number % 4));
-                }
+    }
+
+    private void lookAtText(String at, int exhibit, int text) {
+        for (int what = 0; what < 8; what++) {
+            Check.due(at + "text(" + exhibit + ", " + text + ", " + what + ")",
+                x.text(exhibit, text, what), model.text(exhibit, text, what));
+        }
+        for (int number = 0; number < 16; number++) {
+            lookAtCaption(at, exhibit, text, number / 4, number % 4);
+        }
+    }
+
+    private void lookAtCaption(String at, int exhibit, int text, int caption, int what) {
+        Check.due(at + "caption(" + exhibit + ", " + text + ", " + caption + ", " + what + ")",
+            x.caption(exhibit, text, caption, what), model.caption(exhibit, text, caption, what));
+    }
+
+    /** Looks at as much as the calls that are left allow, from any exhibit on. */
+    private void lookAtAll(String at) {
+        lookAtCounts(at);
+        int first = random.nextInt(8);
+        for (int number = 0; number < 8 * 5 && x.callsLeft() >= 24; number++) {
+            int exhibit = (first + number / 5) % 8;
+            int text = number % 5;
+            if (model.text(exhibit, text, 0) >= 0) {
+                lookAtText(at, exhibit, text);
             }
         }
     }

@@ -18,7 +18,7 @@ final class TellingTest {
 
     /** Promise 18. */
     private static void text() {
-        ExhibitTexts x = new ExhibitTexts();
+        Carousel x = new Carousel();
         x.addText(5, 60, 4, 13, 9);
         x.addCaption(5, 0, 4, 8);
         x.addCaption(5, 0, 5, 1);
@@ -36,7 +36,7 @@ final class TellingTest {
 
     /** Promise 19. */
     private static void caption() {
-        ExhibitTexts x = new ExhibitTexts();
+        Carousel x = new Carousel();
         x.addText(5, 60, 4, 13, 9);
         x.addText(5, 61, 4, 13, 9);
         x.addCaption(5, 0, 4, 8);
@@ -57,7 +57,7 @@ final class TellingTest {
 
     /** Promise 20. */
     private static void visitor() {
-        ExhibitTexts x = new ExhibitTexts();
+        Carousel x = new Carousel();
         Check.due("BAD_VALUE before NONE", x.visitor(6), -2);
         Check.due("BAD_VALUE before NONE", x.visitor(-1), -2);
         x.enter(44, 222, 1234);
@@ -75,7 +75,7 @@ final class TellingTest {
 
     /** Promise 21. */
     private static void shown() {
-        ExhibitTexts x = new ExhibitTexts();
+        Carousel x = new Carousel();
         x.addText(7, 40, 1, 0, 1);
         x.addText(7, 20, 1, 0, 2);
         x.addText(7, 60, 1, 0, 4);
@@ -99,7 +99,7 @@ final class TellingTest {
     }
 
     private static void shownOfEqualTexts() {
-        ExhibitTexts x = new ExhibitTexts();
+        Carousel x = new Carousel();
         x.addText(0, 42, 2, 0, 1);
         x.addText(0, 41, 2, 0, 1);
         x.addText(0, 40, 2, 0, 1);
@@ -122,7 +122,7 @@ final class TellingTest {
 
     /** Promise 22. */
     private static void unmet() {
-        ExhibitTexts x = new ExhibitTexts();
+        Carousel x = new Carousel();
         Check.due("no texts", x.unmet(4), 0);
         x.addText(0, 20, 1, 0, 3);
         x.addText(0, 40, 1, 0, 12);
@@ -141,7 +141,7 @@ final class TellingTest {
         x.turn(false);
         x.read();
         Check.due("what was learned is the same to it", x.unmet(14), 28);
-        ExhibitTexts y = new ExhibitTexts();
+        Carousel y = new Carousel();
         y.addText(0, 20, 1, 15, 1);
         y.addText(0, 20, 1, 1, 8);
         Check.due("what only another age is shown", y.unmet(15), 1);
@@ -150,7 +150,7 @@ final class TellingTest {
 
     /** Promise 23. */
     private static void round() {
-        ExhibitTexts x = new ExhibitTexts();
+        Carousel x = new Carousel();
         Check.due("no texts", x.round(4, 30, 1), 0);
         for (int exhibit = 0; exhibit < 8; exhibit++) {
             x.addText(exhibit, 20, 2, 0, 1 << exhibit);
@@ -178,7 +178,7 @@ final class TellingTest {
 
     /** Promise 23. */
     private static void roundTakesTime() {
-        ExhibitTexts x = new ExhibitTexts();
+        Carousel x = new Carousel();
         x.addText(0, 60, 10, 0, 1);
         x.addText(1, 120, 20, 0, 2);
         x.addText(2, 30, 10, 0, 3);
@@ -207,7 +207,7 @@ final class TellingTest {
 
     /** Promise 24. */
     private static void ages() {
-        ExhibitTexts x = new ExhibitTexts();
+        Carousel x = new Carousel();
         x.addText(6, 40, 1, 0, 1);
         x.addText(6, 20, 1, 0, 2);
         x.addText(6, 300, 1, 0, 4);
@@ -237,7 +237,7 @@ final class TellingTest {
         Check.due("all but the greatest age", x.ages(2, 0, 1), 98);
     }
 
-    private static void three(ExhibitTexts x, int text, int least, int greatest, int number) {
+    private static void three(Carousel x, int text, int least, int greatest, int number) {
         Check.due("ages(6, " + text + ", 0)", x.ages(6, text, 0), least);
         Check.due("ages(6, " + text + ", 1)", x.ages(6, text, 1), greatest);
         Check.due("ages(6, " + text + ", 2)", x.ages(6, text, 2), number);
@@ -245,7 +245,7 @@ final class TellingTest {
 
     /** Promise 25. */
     private static void count() {
-        ExhibitTexts x = new ExhibitTexts();
+        Carousel x = new Carousel();
         Check.due("what -1", x.count(-1), -2);
         Check.due("what 11", x.count(11), -2);
         Check.due("what greatest", x.count(Integer.MAX_VALUE), -2);

@@ -14,7 +14,7 @@ final class TextsTest {
 
     /** Promise 1. */
     private static void newObject() {
-        ExhibitTexts x = new ExhibitTexts();
+        Carousel x = new Carousel();
         Check.counts(x, 0, 0, 0, 5, 0, 0, 0, 0, 0, 0, 0, -2);
         Check.visitor(x, -5, -5, -5, -5, -5, -5, -2);
         for (int exhibit = 0; exhibit < 8; exhibit++) {
@@ -27,7 +27,7 @@ final class TextsTest {
 
     /** Promise 2. */
     private static void addText() {
-        ExhibitTexts x = new ExhibitTexts();
+        Carousel x = new Carousel();
         Check.due("addText", x.addText(0, 1, 1, 0, 1), 0);
         Check.text(x, 0, 0, 1, 1, 0, 1, 4, 0, 0, -2);
         Check.due("addText", x.addText(0, 300, 50, 300, 65535), 1);
@@ -47,7 +47,7 @@ final class TextsTest {
 
     /** Promise 2. */
     private static void addTextWithWrongInputs() {
-        ExhibitTexts x = new ExhibitTexts();
+        Carousel x = new Carousel();
         Check.due("exhibit -1", x.addText(-1, 0, 0, -1, 0), -1);
         Check.due("exhibit 8", x.addText(8, 10, 1, 0, 1), -1);
         Check.due("exhibit greatest", x.addText(Integer.MAX_VALUE, 10, 1, 0, 1), -1);
@@ -75,7 +75,7 @@ final class TextsTest {
 
     /** Promise 3. */
     private static void removeText() {
-        ExhibitTexts x = new ExhibitTexts();
+        Carousel x = new Carousel();
         for (int text = 0; text < 5; text++) {
             x.addText(7, 10 + text, 1, 0, 1 << text);
         }
@@ -107,7 +107,7 @@ final class TextsTest {
 
     /** Promise 4. */
     private static void setFacts() {
-        ExhibitTexts x = new ExhibitTexts();
+        Carousel x = new Carousel();
         x.addText(2, 10, 1, 0, 7);
         Check.due("setFacts", x.setFacts(2, 0, 15), 7);
         Check.due("the same facts", x.setFacts(2, 0, 15), -5);
@@ -135,7 +135,7 @@ final class TextsTest {
 
     /** Promise 5. */
     private static void addCaption() {
-        ExhibitTexts x = new ExhibitTexts();
+        Carousel x = new Carousel();
         x.addText(7, 10, 1, 0, 5);
         Check.due("addCaption", x.addCaption(7, 0, 1, 5), 0);
         Check.due("addCaption", x.addCaption(7, 0, 30, 0), 1);

@@ -16,7 +16,7 @@ final class VisitorsTest {
 
     /** Promise 8. */
     private static void enter() {
-        ExhibitTexts x = new ExhibitTexts();
+        Carousel x = new Carousel();
         Check.due("enter without a text", x.enter(4, 30, 1), 9);
         Check.visitor(x, 4, 30, 1, 0, 0, -5);
         x.addText(0, 1, 1, 0, 3);
@@ -44,7 +44,7 @@ final class VisitorsTest {
 
     /** Promise 9. */
     private static void touch() {
-        ExhibitTexts x = new ExhibitTexts();
+        Carousel x = new Carousel();
         x.addText(0, 60, 10, 0, 7);
         x.addCaption(0, 0, 10, 1);
         Check.due("no visitor", x.touch(0), -4);
@@ -84,7 +84,7 @@ final class VisitorsTest {
 
     /** Promise 9. */
     private static void touchOpensTheText() {
-        ExhibitTexts x = new ExhibitTexts();
+        Carousel x = new Carousel();
         x.addText(0, 60, 10, 0, 7);
         x.addCaption(0, 0, 10, 1);
         x.addCaption(0, 0, 10, 7);
@@ -113,7 +113,7 @@ final class VisitorsTest {
 
     /** Promise 10. */
     private static void read() {
-        ExhibitTexts x = new ExhibitTexts();
+        Carousel x = new Carousel();
         x.addText(0, 60, 10, 0, 7);
         Check.due("no visitor", x.read(), -4);
         x.enter(20, 60, 59);
@@ -140,7 +140,7 @@ final class VisitorsTest {
     }
 
     private static void roundedTimes() {
-        ExhibitTexts x = new ExhibitTexts();
+        Carousel x = new Carousel();
         x.addText(0, 1, 1, 0, 1);
         x.addText(1, 201, 10, 0, 1);
         x.addCaption(1, 0, 7, 1);
@@ -167,7 +167,7 @@ final class VisitorsTest {
 
     /** What is new was never read, also where something stood that was. */
     private static void newTextsWereNeverRead() {
-        ExhibitTexts x = new ExhibitTexts();
+        Carousel x = new Carousel();
         x.addText(0, 10, 1, 0, 3);
         x.addCaption(0, 0, 1, 1);
         x.enter(99, 400, 100);
@@ -184,7 +184,7 @@ final class VisitorsTest {
 
     /** Promise 11. */
     private static void turn() {
-        ExhibitTexts x = new ExhibitTexts();
+        Carousel x = new Carousel();
         Check.due("turn", x.turn(false), 7);
         Check.due("turn", x.turn(false), 6);
         Check.due("turn", x.turn(true), 7);
@@ -211,7 +211,7 @@ final class VisitorsTest {
 
     /** Promise 12. */
     private static void setTurning() {
-        ExhibitTexts x = new ExhibitTexts();
+        Carousel x = new Carousel();
         Check.due("as it is", x.setTurning(5), -5);
         Check.due("61", x.setTurning(61), -2);
         Check.due("-1", x.setTurning(-1), -2);
