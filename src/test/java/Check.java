@@ -5,7 +5,7 @@ final class Check {
     private static int right = 0;
     private static int wrong = 0;
     /** What is tested, printed ahead of an answer that is not as due. */
-    private static String test = "";
+    private static volatile String test = "";
 
     private Check() {
     }
@@ -13,6 +13,10 @@ final class Check {
     /** Begins a test that bears a name. */
     static void begin(String name) {
         test = name + ": ";
+    }
+
+    static String running() {
+        return test;
     }
 
     static void due(String call, long got, long want) {
