@@ -22,8 +22,8 @@ final class TellingSentences extends Sentences {
         due("text of what was removed", x.text(3, 4, 0), UNKNOWN);
     }
 
-    @Holds({"Promise 18: `what`: 0 for its words", "Promise 18: 1 for its sentences", "Promise 18: 2 for its long words",
-        "Promise 18: 3 for its facts", "Promise 18: 4 for its reading age", "Promise 18: 5 for its captions",
+    @Holds({"Promise 18: `what`: 0 for its words", "Promise 18: 1 for its sentences",
+        "Promise 18: 2 for its long words", "Promise 18: 3 for its facts", "Promise 18: 4 for its reading age", "Promise 18: 5 for its captions",
         "Promise 18: 6 for how often it was read", "Promise 18: Returns the number"})
     static void textTellsEachNumber() {
         Carousel x = after(Sentences::lived);
@@ -76,7 +76,8 @@ final class TellingSentences extends Sentences {
 
     // ---- promise 20
 
-    @Holds({"Promise 20: `what`: 0 for the age", "Promise 20: 1 for the pace", "Promise 20: 2 for the seconds that are left",
+    @Holds({"Promise 20: `what`: 0 for the age", "Promise 20: 1 for the pace",
+        "Promise 20: 2 for the seconds that are left",
         "Promise 20: 3 for the facts that were learned (as bits)", "Promise 20: 4 for how many these are",
         "Promise 20: Returns the number"})
     static void visitorTellsEachNumber() {

@@ -356,7 +356,7 @@ final class VisitorSentences extends Sentences {
         due("visitor(3)", x.visitor(3), 5);
     }
 
-    @Holds("What a visitor is shown: and then the text is opened, and read as a whole, if the seconds that are left then")
+    @Holds("What a visitor is shown: and read as a whole, if the seconds that are left then suffice for it")
     static void theTextIsOpenedIfTheSecondsThatAreLeftThenSuffice() {
         Carousel x = after(captionedFor(70));
         due("touch in just the time", x.touch(0), 3);
@@ -702,7 +702,8 @@ final class VisitorSentences extends Sentences {
 
     // ---- promise 12
 
-    @Holds({"What a visitor is shown: (0 to 60; at first 5)", "Promise 12: `seconds`: 0 to 60", "Promise 12: BAD_VALUE"})
+    @Holds({"What a visitor is shown: (0 to 60; at first 5)", "Promise 12: `seconds`: 0 to 60",
+        "Promise 12: BAD_VALUE"})
     static void theTurningTimeIs0To60() {
         range("setTurning", Sentences::lived, Carousel::setTurning, 0, 60, BAD_VALUE);
         range("setTurning", Sentences::nothing, Carousel::setTurning, 0, 60, BAD_VALUE);
