@@ -23,8 +23,8 @@ final class TellingSentences extends Sentences {
     }
 
     @Holds({"Promise 18: `what`: 0 for its words", "Promise 18: 1 for its sentences",
-        "Promise 18: 2 for its long words", "Promise 18: 3 for its facts", "Promise 18: 4 for its reading age", "Promise 18: 5 for its captions",
-        "Promise 18: 6 for how often it was read", "Promise 18: Returns the number"})
+        "Promise 18: 2 for its long words", "Promise 18: 3 for its facts", "Promise 18: 4 for its reading age",
+        "Promise 18: 5 for its captions", "Promise 18: 6 for how often it was read", "Promise 18: Returns the number"})
     static void textTellsEachNumber() {
         Carousel x = after(Sentences::lived);
         Check.text(x, 0, 0, 60, 10, 0, 7, 7, 2, 1);
