@@ -12,6 +12,8 @@ public final class AllTests {
         FaceTest.run();
         Check.begin("LanguageTest");
         LanguageTest.run();
+        Check.begin("ReadmeTest");
+        ReadmeTest.run();
         Check.begin("TextsTest");
         TextsTest.run();
         Check.begin("EntriesTest");

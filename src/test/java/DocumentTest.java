@@ -13,7 +13,7 @@ import java.util.Map;
 final class DocumentTest {
     private static final Path DOCUMENT = Path.of("../shared/DOC.md");
     private static final String LONE_SENTENCE = "An object is used for at most 512 calls after it has been made";
-    /** Which methods stand behind which heading of the interface; nothing that a call could answer. */
+    /** Which methods stand behind which heading of the interface: FaceTest looks at that. */
     private static final String HEADINGS_OF_THE_INTERFACE = "Ahead of the calls";
 
     private DocumentTest() {

@@ -2,13 +2,19 @@ import java.lang.reflect.Constructor;
 import java.lang.reflect.Field;
 import java.lang.reflect.Method;
 import java.lang.reflect.Modifier;
+import java.nio.file.Files;
+import java.nio.file.Path;
+import java.util.ArrayList;
 import java.util.Arrays;
+import java.util.List;
 import java.util.Set;
 import java.util.TreeSet;
+import java.util.regex.Matcher;
+import java.util.regex.Pattern;
 
 /** The public face of the document: nothing more, nothing less. */
 final class FaceTest {
-    private static final String[] METHODS = {
+    static final String[] METHODS = {
         "int addText(int, int, int, int, int)", "int removeText(int, int)", "int setFacts(int, int, int)",
         "int addCaption(int, int, int, int)", "int readEntries()", "int refusal(int)",
         "int enter(int, int, int)", "int touch(int)", "int read()", "int turn(boolean)",
@@ -17,13 +23,24 @@ final class FaceTest {
         "int shown(int, int)", "int unmet(int)", "int round(int, int, int)", "int ages(int, int, int)",
         "int count(int)"
     };
+    private static final String[] HEADINGS = {
+        "---- texts and captions", "addText", "removeText", "setFacts", "addCaption", "readEntries", "refusal",
+        "---- visitors", "enter", "touch", "read", "turn", "setTurning",
+        "---- the pad", "type", "clearPad",
+        "---- history", "undo", "keep", "restore",
+        "---- what is told", "text", "caption", "visitor", "shown", "unmet", "round", "ages", "count"
+    };
+    private static final Path SOURCE = Path.of("src/main/java/ExhibitTexts.java");
+    private static final Pattern HEADING_OR_METHOD =
+        Pattern.compile("    (?:// (----.*)|public \\w+ (\\w+)\\(.*\\) \\{)");
     private static final String[] CONSTANTS = {"UNKNOWN", "BAD_VALUE", "FULL", "NOT_POSSIBLE", "NONE"};
 
     private FaceTest() {
     }
 
-    static void run() {
+    static void run() throws Exception {
         constants();
+        headings();
         Set<String> methods = publicMethods();
         Check.holds("the public methods are those of the document, not " + methods,
             methods.equals(new TreeSet<>(Arrays.asList(METHODS))));
@@ -43,6 +60,18 @@ final class FaceTest {
         Check.due("FULL", ExhibitTexts.FULL, -3);
         Check.due("NOT_POSSIBLE", ExhibitTexts.NOT_POSSIBLE, -4);
         Check.due("NONE", ExhibitTexts.NONE, -5);
+    }
+
+    /** The methods stand in the document's order, each behind its heading; private ones may follow with their own. */
+    private static void headings() throws Exception {
+        List<String> found = new ArrayList<>();
+        for (String line : Files.readAllLines(SOURCE)) {
+            Matcher matcher = HEADING_OR_METHOD.matcher(line);
+            if (matcher.matches() && found.size() < HEADINGS.length) {
+                found.add(matcher.group(1) == null ? matcher.group(2) : matcher.group(1));
+            }
+        }
+        Check.same("headings and methods of the interface", found, List.of(HEADINGS));
     }
 
     private static Set<String> publicMethods() {

@@ -3,7 +3,9 @@ import java.lang.reflect.Method;
 import java.lang.reflect.Modifier;
 import java.nio.file.Files;
 import java.nio.file.Path;
+import java.util.HashMap;
 import java.util.HashSet;
+import java.util.Map;
 import java.util.Set;
 import java.util.regex.Matcher;
 import java.util.regex.Pattern;
@@ -16,8 +18,17 @@ final class LanguageTest {
         "->", "::", "\\bstatic\\s*\\{", "\\bequals\\b", "\\bhashCode\\b", "\\btoString\\b", "\\bSystem\\.(?!arraycopy)",
         "\\b(?:Math|Integer|Long)\\.\\w+Exact\\b", "\\bimport\\b(?! java\\.util\\.(?:Arrays|ArrayList|List);)"
     };
+    /** A static function of a class, or an object or array that is made. */
+    private static final Pattern IN_USE = Pattern.compile("\\b([A-Z]\\w*)\\.\\w+|\\bnew (\\w+)");
+    /** All that the program uses of these; each is in the rules' list. One more is to be looked up there first. */
+    private static final Set<String> LOOKED_UP = Set.of("System.arraycopy", "Math.max", "Math.min", "Math.floorMod",
+        "Integer.bitCount", "new State", "new Pad", "new int", "new char");
+    private static final Pattern METHOD = Pattern.compile("(?:    |        )(?:\\w+ )*?(\\w+)\\([^;=]*\\{");
+    private static final Pattern CALL = Pattern.compile("\\b([a-z]\\w*)\\(");
     private static final int MOST_LINES_OF_A_METHOD = 60;
     private static final int MOST_FIELDS = 20;
+    private static final int MOST_CLASSES = 12;
+    private static final int MOST_CALLS_DEEP = 8;
 
     private LanguageTest() {
     }
@@ -31,7 +42,53 @@ final class LanguageTest {
         }
         Check.holds("the program's signs are 1 to 127", source.chars().allMatch(c -> c >= 1 && c <= 127));
         methodsAreShort(code);
+        libraryIsAllowed(code);
+        callsAreFewDeep(code);
         classes();
+    }
+
+    private static void libraryIsAllowed(String code) {
+        Matcher matcher = IN_USE.matcher(code);
+        while (matcher.find()) {
+            Check.holds(matcher.group() + " is looked up", LOOKED_UP.contains(matcher.group()));
+        }
+    }
+
+    /** No method calls itself, and few calls stand open at once; all methods of the program bear different names. */
+    private static void callsAreFewDeep(String code) {
+        Map<String, Set<String>> calls = new HashMap<>();
+        Set<String> called = null;
+        for (String line : code.split("\n")) {
+            Matcher method = METHOD.matcher(line);
+            if (method.matches()) {
+                called = new HashSet<>();
+                Check.holds("one method bears the name " + method.group(1),
+                    calls.put(method.group(1), called) == null);
+            } else if (called != null) {
+                Matcher call = CALL.matcher(line);
+                while (call.find()) {
+                    called.add(call.group(1));
+                }
+            }
+        }
+        Check.holds("methods were found", calls.size() > FaceTest.METHODS.length);
+        for (String method : calls.keySet()) {
+            int deep = depth(method, calls, 0);
+            Check.holds(method + " is " + deep + " calls deep, at most " + MOST_CALLS_DEEP, deep <= MOST_CALLS_DEEP);
+        }
+    }
+
+    /** How many calls stand open at once; one more than is allowed where methods call one another without an end. */
+    private static int depth(String method, Map<String, Set<String>> calls, int open) {
+        Set<String> called = calls.get(method);
+        if (called == null || open > MOST_CALLS_DEEP) {
+            return open;
+        }
+        int deepest = open + 1;
+        for (String next : called) {
+            deepest = Math.max(deepest, depth(next, calls, open + 1));
+        }
+        return deepest;
     }
 
     private static void methodsAreShort(String code) {
@@ -55,7 +112,9 @@ final class LanguageTest {
             }
         }
         oneClass(ExhibitTexts.class, publicNames);
-        for (Class<?> inside : ExhibitTexts.class.getDeclaredClasses()) {
+        Class<?>[] classes = ExhibitTexts.class.getDeclaredClasses();
+        Check.holds("the file has no more than some twelve classes", classes.length < MOST_CLASSES);
+        for (Class<?> inside : classes) {
             Check.holds(inside + " is static", Modifier.isStatic(inside.getModifiers()));
             oneClass(inside, publicNames);
         }
